@@ -42,6 +42,15 @@ public final class OrderTest {
         checks.due("many 2", x.many(2), 8);
         Checks.tell(x, "letters 2;free ab");
         checks.due("many 60 of two free ones", x.many(60), 61);
+        Checks.tell(x, "letters 6");
+        for (int p = 0; p < 6; p++) {
+            for (int q = p + 1; q < 6; q++) {
+                x.free(p, q, true);
+            }
+        }
+        // as many as there are rows of six counts with this sum: 15 over 5, 65 over 5
+        checks.due("many 10 of six free ones", x.many(10), 3003);
+        checks.due("many 60 of six free ones", x.many(60), 8259888);
     }
 
     private static void inOrder() {

@@ -76,6 +76,9 @@ public final class TextTest {
         dueFault(x, "free ab7", 7);
         dueFault(x, "fre ab", 0);
         dueFault(x, "frees ab", 0);
+        dueFault(x, "freez ab", 0);
+        dueFault(x, "free`ab", 4);
+        dueFault(x, "free{ab", 4);
         dueFault(x, "Free ab", 0);
         dueFault(x, "boun ab", 0);
         dueFault(x, "bound bb", 6);
@@ -93,6 +96,10 @@ public final class TextTest {
         dueFault(x, "letters 9", 8);
         dueFault(x, "letters 04", 8);
         dueFault(x, "letters 44", 8);
+        dueFault(x, "letters 4/", 9);
+        dueFault(x, "letters 4:", 9);
+        dueFault(x, "letters 40", 8);
+        dueFault(x, "letters 49", 8);
         dueFault(x, "letters 4 4", 10);
         dueFault(x, "letters 4a", 9);
         dueFault(x, "letters", 7);

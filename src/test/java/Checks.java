@@ -31,6 +31,26 @@ final class Checks {
         }
     }
 
+    /** A new object to which a text was told. */
+    static SwapSteps made(String text) {
+        SwapSteps x = new SwapSteps();
+        if (tell(x, text) < 0) {
+            throw new IllegalArgumentException("a fault in " + text);
+        }
+        return x;
+    }
+
+    /** A new object of so many letters, all of them free. */
+    static SwapSteps allFree(int letters) {
+        SwapSteps x = made("letters " + letters);
+        for (int p = 0; p < letters; p++) {
+            for (int q = p + 1; q < letters; q++) {
+                x.free(p, q, true);
+            }
+        }
+        return x;
+    }
+
     /** Tells a text to the object: the answer of told. */
     static int tell(SwapSteps x, String text) {
         x.erase();
@@ -55,8 +75,12 @@ final class Checks {
     /** A heap's row as it is told (what 0), or its least row (1). */
     static String row(SwapSteps x, int heap, int what) {
         StringBuilder row = new StringBuilder();
-        for (int i = 0; i < 24 && x.letter(heap, i, what) >= 0; i++) {
-            row.append((char) ('a' + x.letter(heap, i, what)));
+        for (int i = 0; i < 24; i++) {
+            int letter = x.letter(heap, i, what);
+            if (letter < 0) {
+                break;
+            }
+            row.append((char) ('a' + letter));
         }
         return row.toString();
     }

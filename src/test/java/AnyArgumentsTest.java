@@ -8,21 +8,26 @@ public final class AnyArgumentsTest {
         23, 24, 25, 31, 32, 59, 60, 61, 63, 64, 100, 160, Integer.MAX_VALUE - 1, Integer.MAX_VALUE};
     private static final int CALLS = 32;
 
+    /** A call that can be made again on a twin. */
+    private record Made(int call, int a, int b, int c, long bytes) {
+    }
+
     public static void main(String[] args) {
-        for (int run = 0; run < 400; run++) {
-            SwapSteps x = new SwapSteps();
-            for (int i = 0; i < 120; i++) {
-                if (i % 20 == 0) {
-                    Checks.tell(x, "letters " + (1 + random.nextInt(6)) + ";heap 0 is " + "a".repeat(1 + random.nextInt(24)));
+        for (int run = 0; run < 2000; run++) {
+            String start = "letters " + (1 + random.nextInt(6)) + ";heap 0 is " + "a".repeat(1 + random.nextInt(24));
+            SwapSteps x = Checks.made(start);
+            SwapSteps twin = Checks.made(start);
+            int calls = 10 + random.nextInt(100);
+            for (int i = 0; i < calls; i++) {
+                Made made = new Made(random.nextInt(CALLS), any(), any(), any(), random.nextLong());
+                int answer = answer(x, made);
+                checks.due("call " + made + " answers as told", answer >= SwapSteps.SPENT ? 1 : 0, 1);
+                // the twin has no call that is refused
+                if (answer >= SwapSteps.NONE) {
+                    checks.due("call " + made + " of the twin", answer(twin, made), answer);
                 }
-                String before = state(x);
-                int call = random.nextInt(CALLS);
-                int answer = answer(x, call, any(), any(), any());
-                if (answer < SwapSteps.NONE) {
-                    checks.due("call " + call + " was refused: changed", before.equals(state(x)) ? 0 : 1, 0);
-                }
-                checks.due("call " + call + " answers as told", answer >= SwapSteps.SPENT ? 1 : 0, 1);
             }
+            checks.due("refused calls changed nothing", Look.at(x).equals(Look.at(twin)) ? 1 : 0, 1);
         }
         checks.finish();
     }
@@ -38,20 +43,12 @@ public final class AnyArgumentsTest {
         }
     }
 
-    private static String state(SwapSteps x) {
-        StringBuilder state = new StringBuilder();
-        for (int what = 0; what < 7; what++) {
-            state.append(x.count(what)).append(' ');
-        }
-        for (int heap = 0; heap < 4; heap++) {
-            state.append(Checks.row(x, heap, 0)).append(' ').append(Checks.row(x, heap, 1)).append(' ');
-        }
-        return state.append(x.taken(3)).append(' ').append(x.minds()).append(' ').append(x.fault()).toString();
-    }
-
-    private static int answer(SwapSteps x, int call, int a, int b, int c) {
-        switch (call) {
-            case 0: return x.write(random.nextLong(), a);
+    private static int answer(SwapSteps x, Made made) {
+        int a = made.a();
+        int b = made.b();
+        int c = made.c();
+        switch (made.call()) {
+            case 0: return x.write(made.bytes(), a);
             case 1: return x.erase();
             case 2: return x.fault();
             case 3: return x.told();

@@ -8,6 +8,7 @@ public final class HeapBoundsTest {
     private static final Checks checks = new Checks();
 
     public static void main(String[] args) {
+        theConstants();
         aNewObject();
         eachObjectIsItsOwn();
         freeOfLettersThatThereAre();
@@ -37,6 +38,16 @@ public final class HeapBoundsTest {
 
     private static boolean isHeap(int h) {
         return h >= 0 && h <= 3;
+    }
+
+    /** "NONE = -1, UNKNOWN = -2, OUTSIDE = -3, NOT = -4, FULL = -5, SPENT = -6" */
+    private static void theConstants() {
+        checks.due("NONE", SwapSteps.NONE, -1);
+        checks.due("UNKNOWN", SwapSteps.UNKNOWN, -2);
+        checks.due("OUTSIDE", SwapSteps.OUTSIDE, -3);
+        checks.due("NOT", SwapSteps.NOT, -4);
+        checks.due("FULL", SwapSteps.FULL, -5);
+        checks.due("SPENT", SwapSteps.SPENT, -6);
     }
 
     /** "Three LETTERS, nothing FREE, empty HEAPS." */

@@ -22,6 +22,7 @@ public final class ReaderBoundsTest {
         takesByEachState();
         takenOf0To60();
         takenOfAllAndNone();
+        takenOfFreeOnes();
         takenModulo();
         checks.finish();
     }
@@ -335,6 +336,50 @@ public final class ReaderBoundsTest {
                 checks.due(text + ": none", x.taken(60), 0);
             }
         }
+    }
+
+    /** All free: a heap is how many it has of each letter; those with so many of one, by five, are taken. */
+    private static void takenOfFreeOnes() {
+        for (int k = 1; k <= 6; k++) {
+            SwapSteps all = Checks.allFree(k);
+            all.reader(1, 1);
+            for (int n = 0; n <= 60; n++) {
+                checks.due(k + " free: all of " + n, all.taken(n), all.many(n));
+            }
+            for (int letter = 0; letter < k; letter++) {
+                for (int rest = 0; rest < 5; rest++) {
+                    SwapSteps x = Checks.allFree(k);
+                    x.reader(5, 1 << rest);
+                    for (int state = 0; state < 5; state++) {
+                        x.move(state, letter, (state + 1) % 5);
+                    }
+                    for (int n = 0; n <= 60; n++) {
+                        checks.due(k + " free: letter " + letter + ", rest " + rest + " of " + n, x.taken(n), ofRest(k, n, rest));
+                    }
+                }
+            }
+        }
+    }
+
+    /** How many rows of k counts with sum n have a first one that leaves this rest by five. */
+    private static long ofRest(int k, int n, int rest) {
+        long heaps = 0;
+        for (int first = rest; first <= n; first += 5) {
+            heaps += rowsOfCounts(k - 1, n - first);
+        }
+        return heaps;
+    }
+
+    /** How many rows of k counts with sum n there are. */
+    private static long rowsOfCounts(int k, int n) {
+        if (k == 0) {
+            return n == 0 ? 1 : 0;
+        }
+        long rows = 1;
+        for (int i = 1; i < k; i++) {
+            rows = rows * (n + i) / i;
+        }
+        return rows;
     }
 
     /** "modulo 1000000007": the last power of two below it and the first beyond. */

@@ -16,8 +16,8 @@ public final class ModelTest {
             twoHeaps(word(5), random.nextInt(3) == 0 ? word(5) : null);
         }
         for (int i = 0; i < 200; i++) {
-            start(1 + random.nextInt(4));
-            allHeaps(random.nextInt(6));
+            start(1 + random.nextInt(6));
+            allHeaps(random.nextInt(model.k > 4 ? 5 : 6));
         }
         for (int i = 0; i < 20000; i++) {
             text(i);

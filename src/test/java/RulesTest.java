@@ -1,9 +1,10 @@
-import java.nio.charset.StandardCharsets;
-import java.nio.file.Files;
-import java.nio.file.Path;
+import java.lang.reflect.Constructor;
 import java.lang.reflect.Field;
 import java.lang.reflect.Method;
 import java.lang.reflect.Modifier;
+import java.nio.charset.StandardCharsets;
+import java.nio.file.Files;
+import java.nio.file.Path;
 import java.util.regex.Matcher;
 import java.util.regex.Pattern;
 
@@ -24,6 +25,9 @@ public final class RulesTest {
         }
         looksAtFace();
         looksAtClasses();
+        looksAtFields(SwapSteps.class);
+        looksAtMethods(SwapSteps.class);
+        looksAtLengths(source.split("\n"));
         checks.finish();
     }
 
@@ -55,13 +59,45 @@ public final class RulesTest {
                     checks.due(method + " bears a public name", isTaken ? 1 : 0, 0);
                 }
             }
-            int fields = 0;
-            for (Field field : inside.getDeclaredFields()) {
-                boolean isStatic = Modifier.isStatic(field.getModifiers());
-                fields += isStatic ? 0 : 1;
-                checks.due(field + " is final or no static", !isStatic || Modifier.isFinal(field.getModifiers()) ? 1 : 0, 1);
-            }
-            checks.due(inside + " has few fields", fields <= 20 ? 1 : 0, 1);
+            looksAtFields(inside);
+            looksAtMethods(inside);
         }
+    }
+
+    private static void looksAtFields(Class<?> one) {
+        int fields = 0;
+        for (Field field : one.getDeclaredFields()) {
+            boolean isStatic = Modifier.isStatic(field.getModifiers());
+            fields += isStatic ? 0 : 1;
+            checks.due(field + " is final or no static", !isStatic || Modifier.isFinal(field.getModifiers()) ? 1 : 0, 1);
+        }
+        checks.due(one + " has few fields", fields <= 20 ? 1 : 0, 1);
+    }
+
+    private static void looksAtMethods(Class<?> one) {
+        for (Method method : one.getDeclaredMethods()) {
+            checks.due(method + " takes few parameters", method.getParameterCount() <= 7 ? 1 : 0, 1);
+        }
+        for (Constructor<?> constructor : one.getDeclaredConstructors()) {
+            checks.due(constructor + " takes few parameters", constructor.getParameterCount() <= 7 ? 1 : 0, 1);
+        }
+    }
+
+    /** A method's first line ends with ") {" at one or two steps in, and its last line is a brace as far in. */
+    private static void looksAtLengths(String[] lines) {
+        int methods = 0;
+        for (int i = 0; i < lines.length; i++) {
+            int in = lines[i].length() - lines[i].stripLeading().length();
+            if ((in == 4 || in == 8) && lines[i].matches(" *[\\w\\[\\] ]+\\(.*\\) \\{")
+                && !lines[i].matches(" *(if|for|while|switch) .*")) {
+                int end = i;
+                while (end < lines.length && !lines[end].equals(" ".repeat(in) + "}")) {
+                    end++;
+                }
+                methods++;
+                checks.due("lines of" + lines[i] + " are few", end - i < 60 ? 1 : 0, 1);
+            }
+        }
+        checks.due("methods were found", methods > 100 ? 1 : 0, 1);
     }
 }
